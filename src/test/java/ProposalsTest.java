@@ -106,6 +106,29 @@ final class ProposalsTest {
             book.keep();
         }
         Check.same("27: full lines", book.propose(0), 0);
+        firstPlaceIsInOneLine();
+    }
+
+    /** 8 7 and 3 0 stand first behind 5 6: neither the edge of two lines nor the end of a line is a place of theirs. */
+    private static void firstPlaceIsInOneLine() {
+        WireBook full = new WireBook();
+        for (int word = 100; word < 139; word++) {
+            full.say(word);
+        }
+        full.say(8);
+        full.keep();
+        Check.keep(full, 7, 5, 6);
+        Check.keep(full, 5, 6, 8, 7);
+        Check.keep(full, 8, 7);
+        Check.same("27: tie at the edge of two lines", full.propose(0), 6);
+        Check.line("27: tie at the edge of two lines", full, 5, 6);
+        WireBook brief = new WireBook();
+        Check.keep(brief, 3);
+        Check.keep(brief, 5, 6);
+        Check.keep(brief, 5, 6, 3, 0);
+        Check.keep(brief, 3, 0);
+        Check.same("27: tie at the end of a line", brief.propose(0), 6);
+        Check.line("27: tie at the end of a line", brief, 5, 6);
     }
 
     private static void learn() {
