@@ -103,24 +103,21 @@ final class BooksTest {
         Check.same("10: full book", book.firstFit(1, LAST), -1);
     }
 
-    /** 26 entries xaaaa.. block all of a plane of 676 code words; the first free one lies far behind. */
+    /** 26 entries aaaxx refuse all of a plane of 676 code words; the first free one lies behind it. */
     private static void firstFitReach() {
         WireBook book = new WireBook();
         for (int letter = 0; letter < 26; letter++) {
-            Check.define(book, 0, 27 * letter, letter);
+            book.say(letter);
+            book.define(0, 27 * letter);
         }
-        int free = book.firstFit(0, 700);
-        Check.same("10: behind one plane", book.firstFit(0, 0), book.firstFit(0, 676));
-        Check.holds("10: blocked plane", book.firstFit(0, 0) >= 676 && free >= 700);
-        // The reach cannot be met by 40 entries, so it is told apart by the end of the code words only.
-        for (int from = 0; from <= 2600; from += 13) {
-            int found = book.firstFit(0, from);
-            int due = -1;
-            for (int code = from; code <= from + 2000 && due < 0; code++) {
-                due = book.reason(0, code) == 0 ? code : -1;
-            }
-            Check.same("10: from " + from, found, due);
+        // aabaa differs in one letter from aaaaa, and aabab is aaabb with two letters in changed places.
+        int due = Check.code("aabac");
+        for (int from = 0; from <= due; from += 13) {
+            Check.same("10: from " + from, book.firstFit(0, from), due);
         }
+        Check.same("10: behind it", book.firstFit(0, due + 1), due + 1);
+        Check.same("10: aabaa", book.reason(0, Check.code("aabaa")), 3);
+        Check.same("10: aabab", book.reason(0, Check.code("aabab")), 4);
     }
 
     private static void define() {

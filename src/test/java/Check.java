@@ -48,11 +48,26 @@ final class Check {
         }
     }
 
-    /** The call must throw and leave everything that digest() tells as it was. */
+    /** The call must throw and leave all that digest() and how() tell as it was. */
     static void refuses(WireBook book, String what, Class<?> due, Call call) {
-        long before = book.digest();
+        String before = state(book);
         fails(what, due, call);
-        same(what + ": digest() afterwards", book.digest(), before);
+        String after = state(book);
+        holds(what + " changed something: " + before + " was, " + after + " is", after.equals(before));
+    }
+
+    /** digest() tells the whole state but for how the last message was read. */
+    private static String state(WireBook book) {
+        StringBuilder told = new StringBuilder();
+        told.append(book.digest()).append(", read");
+        for (int group = 0; group <= 40; group++) {
+            try {
+                told.append(' ').append(book.how(group));
+            } catch (RuntimeException end) {
+                return told.toString();
+            }
+        }
+        return told.toString();
     }
 
     static void fail(String text) {
