@@ -7,7 +7,8 @@ import java.lang.management.ThreadMXBean;
  */
 final class RoomTest {
     private static final long ROOM = 4L * 7_300_000;
-    private static final int CALLS = 300;
+    /** What is left of 512 calls behind 40 words, 12 lines that are kept and recalled, and a message. */
+    private static final int CALLS = 512 - 40 - 24 - 1;
 
     private interface Call {
         void on(WireBook book);

@@ -40,13 +40,35 @@ final class TermsTest {
         Check.same("word 9999", book.say(9999), 2);
         Check.refuses(book, "word 10000", Check.ARGUMENT, () -> book.say(10000));
         Check.line("words 0 and 9999", book, 0, 9999);
+        plainWords(0, 9999);
+        plainWords(9999, 0);
+        plainWords(9999, 9999, 8192, 8191, 4096, 256);
+    }
+
+    /** Wherever words stand, from the first to the last one of a row, they stay what they are. */
+    private static void plainWords(int... words) {
+        WireBook book = new WireBook();
+        Check.say(book, words);
+        Check.line("said", book, words);
         book.encode(0);
-        Check.message("words 0 and 9999", book, -1, -10000);
+        for (int at = 0; at < words.length; at++) {
+            Check.same("sent", book.group(at), -1 - words[at]);
+        }
+        book.empty();
+        book.decode(0);
+        Check.line("read", book, words);
         book.keep();
         book.recall(0);
-        Check.line("words 0 and 9999, kept", book, 0, 9999);
+        Check.line("kept", book, words);
+        book.keep();
+        book.propose(0);
+        Check.line("proposed", book, words);
         book.define(0, 5);
-        Check.phrase("words 0 and 9999, a phrase", book, 0, 0, 5, 0, 9999);
+        Check.phrase("a phrase", book, 0, 0, 5, words);
+        book.recall(1);
+        book.encode(0);
+        book.decode(0);
+        Check.line("read by an entry", book, words);
     }
 
     /** "A line is a row of at most 40 plain words; at first it is empty." (at first) */
